@@ -58,8 +58,9 @@ public final class FaceTest {
     }
 
     private static void lookAtHidden(Due due, Class<?> face) {
+        due.is("public fields", CONSTANTS.length, face.getFields().length);
         for (Field field : face.getDeclaredFields()) {
-            due.isTrue(field + " is seen only as a constant", isHidden(field) || isPublic(field.getModifiers()));
+            due.isTrue(field + " is public or private", isHidden(field) || isPublic(field.getModifiers()));
             due.isTrue(field + " is final if static",
                     !Modifier.isStatic(field.getModifiers()) || Modifier.isFinal(field.getModifiers()));
         }
