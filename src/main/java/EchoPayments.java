@@ -243,13 +243,13 @@ public final class EchoPayments {
      * asked: a correct node writes nothing that is not.
      */
     private int takers(int topic, int from) {
-        long p = isCorrect(from) ? nodes[from].said(topic) : NONE;
-        if (p == NONE) {
+        long p = nodes[from].said(topic);
+        if (p == NONE || !isCorrect(from)) {
             return 0;
         }
         int takers = 0;
         for (int to = 0; to < size; to++) {
-            if (isUp(to) && nodes[to].objection(topic, from, p) == TAKEN) {
+            if (nodes[to].wouldTake(topic, from, p)) {
                 takers |= 1 << to;
             }
         }
@@ -289,7 +289,6 @@ public final class EchoPayments {
     /** The fields of a paper, and of a mark, which are packed into a long. */
     private static final class Paper {
         private static final int NEEDS_AT = 13;
-        private static final long LIMIT = 1L << 34;
 
         static int payee(long p) {
             return (int) (p & 7);
@@ -311,8 +310,9 @@ public final class EchoPayments {
             return (int) (digits >> (3 * account) & 7);
         }
 
+        /** The needs are as the digits of a mark, which also keeps p within 0 .. 2^34 - 1. */
         static boolean isWellFormed(long p, int owner, int size) {
-            if (p < 0 || p >= LIMIT || payee(p) >= size || payee(p) == owner || amount(p) == 0) {
+            if (payee(p) >= size || payee(p) == owner || amount(p) == 0) {
                 return false;
             }
             return need(p, owner) == 0 && isMark(p >> NEEDS_AT, size);
@@ -431,8 +431,13 @@ public final class EchoPayments {
             return objection == TAKEN ? take(topic, from, p) : objection;
         }
 
+        /** That the same was told before is asked first, since in a long run most messages end there. */
+        boolean wouldTake(int topic, int from, long p) {
+            return condition == UP && told[topic * MOST_NODES + from] != p && objection(topic, from, p) == TAKEN;
+        }
+
         /** TAKEN, or why a message that is well formed is not taken. */
-        int objection(int topic, int from, long p) {
+        private int objection(int topic, int from, long p) {
             int kind = Topic.kind(topic);
             long before = told[topic * MOST_NODES + from];
             if (kind == MARK) {

@@ -429,6 +429,12 @@ public final class PromisesTest {
         x.fuse(4, 1);
         due.is("what would crash its receiver would be taken", 13, x.pending());
         due.is("to look changes nothing", 13, x.pending());
+        EchoPayments z = new EchoPayments(4, 100);
+        z.submit(0, 1, 10);
+        z.carry(0, 1, Net.INIT, 0, 1);
+        z.corrupt(0);
+        due.is("not from a faulty one, which sent before: one ECHO to three nodes", 3, z.pending());
+        due.is("pump", 3, z.pump(8));
     }
 
     private void crash() {

@@ -194,6 +194,15 @@ public final class ReceivingTest {
             due.is("mark from " + from, 0, x.carry(from, 1, Net.MARK, 0, 0));
             due.is("freed after " + (from + 1), from < 2 * f ? 0 : 1, x.freed(1, 0));
         }
+        EchoPayments z = new EchoPayments(n, 100);
+        z.mark(0);
+        z.submit(0, 1, 10);
+        Net.settle(z);
+        for (int from = 1; from < n; from++) {
+            z.mark(from);
+            z.carry(from, 1, Net.MARK, 0, 0);
+            due.is("another mark does not count, after " + (from + 1), from < 2 * f + 1 ? 0 : 1, z.freed(1, 0));
+        }
     }
 
     private void orderOfObjections() {
