@@ -5,7 +5,7 @@ import java.util.List;
  * The document once more, sentence by sentence and without a thought for speed, for comparison with the class. It shares
  * no code with it and holds its state otherwise: what is absent is null, and what can be worked out is not stored.
  */
-final class Model {
+final class Model implements Payments {
     static final int REFUSED = -1;
     static final int ABSENT = -2;
     static final int MALFORMED = -3;
@@ -51,6 +51,28 @@ final class Model {
                 applied.add(new ArrayList<>());
             }
             emptyHead();
+        }
+
+        /** Rows within rows are copied too, since the model changes them in place. */
+        void become(Peer other) {
+            faulty = other.faulty;
+            up = other.up;
+            fuse = other.fuse;
+            submitted = new ArrayList<>(other.submitted);
+            mark = other.mark;
+            freed = other.freed.clone();
+            marks = other.marks.clone();
+            for (int a = 0; a < n; a++) {
+                applied.set(a, new ArrayList<>(other.applied.get(a)));
+                echo[a] = other.echo[a].clone();
+                ready[a] = other.ready[a].clone();
+                accepted[a] = other.accepted[a].clone();
+                for (int s = 0; s <= 5; s++) {
+                    for (int kind = 0; kind < 4; kind++) {
+                        heard[kind][a][s] = other.heard[kind][a][s].clone();
+                    }
+                }
+            }
         }
 
         void emptyHead() {
@@ -223,6 +245,15 @@ final class Model {
         }
     }
 
+    /** Another model with the same state. */
+    Model copy() {
+        Model other = new Model(n, (int) start);
+        for (int i = 0; i < n; i++) {
+            other.peers.get(i).become(peers.get(i));
+        }
+        return other;
+    }
+
     static int payee(long p) {
         return (int) (p % 8);
     }
@@ -301,7 +332,8 @@ final class Model {
         return isNode(a) && s >= 1 && s <= 5;
     }
 
-    int submit(int node, int payee, int amount) {
+    @Override
+    public int submit(int node, int payee, int amount) {
         if (!isUp(node) || !isNode(payee) || payee == node || amount < 1 || amount > 1023) {
             return REFUSED;
         }
@@ -333,7 +365,8 @@ final class Model {
         return x.submitted.size();
     }
 
-    boolean corrupt(int node) {
+    @Override
+    public boolean corrupt(int node) {
         int faulty = 0;
         for (Peer peer : peers) {
             faulty += peer.faulty ? 1 : 0;
@@ -345,7 +378,8 @@ final class Model {
         return true;
     }
 
-    int forge(int from, int to, int head, long paper) {
+    @Override
+    public int forge(int from, int to, int head, long paper) {
         if (!isNode(from) || isCorrect(from) || !isUp(to)) {
             return REFUSED;
         }
@@ -353,7 +387,8 @@ final class Model {
                 Math.floorDiv(head, 64), paper, from);
     }
 
-    int carry(int from, int to, int kind, int account, int seq) {
+    @Override
+    public int carry(int from, int to, int kind, int account, int seq) {
         if (!isCorrect(from) || !isUp(to)) {
             return REFUSED;
         }
@@ -361,7 +396,8 @@ final class Model {
         return p == null ? ABSENT : peers.get(to).receive(kind, account, seq, p, from);
     }
 
-    int pump(int k) {
+    @Override
+    public int pump(int k) {
         if (k < 1 || k > 8) {
             return REFUSED;
         }
@@ -378,7 +414,8 @@ final class Model {
         return count;
     }
 
-    int pending() {
+    @Override
+    public int pending() {
         return pendingMessages(Integer.MAX_VALUE).size();
     }
 
@@ -409,7 +446,8 @@ final class Model {
         }
     }
 
-    boolean crash(int node) {
+    @Override
+    public boolean crash(int node) {
         if (!isUp(node)) {
             return false;
         }
@@ -417,7 +455,8 @@ final class Model {
         return true;
     }
 
-    boolean restart(int node) {
+    @Override
+    public boolean restart(int node) {
         if (!isCorrect(node) || peers.get(node).up) {
             return false;
         }
@@ -425,7 +464,8 @@ final class Model {
         return true;
     }
 
-    boolean fuse(int node, int k) {
+    @Override
+    public boolean fuse(int node, int k) {
         if (!isUp(node) || k < 0 || k > 9) {
             return false;
         }
@@ -433,7 +473,8 @@ final class Model {
         return true;
     }
 
-    int mark(int node) {
+    @Override
+    public int mark(int node) {
         if (!isUp(node)) {
             return REFUSED;
         }
@@ -451,12 +492,14 @@ final class Model {
         return (int) sum;
     }
 
-    long sent(int node, int kind, int account, int seq) {
+    @Override
+    public long sent(int node, int kind, int account, int seq) {
         Long p = isCorrect(node) ? peers.get(node).sent(kind, account, seq) : null;
         return p == null ? -1 : p;
     }
 
-    int heard(int node, int kind, int account, int seq) {
+    @Override
+    public int heard(int node, int kind, int account, int seq) {
         if (!isCorrect(node)) {
             return -1;
         }
@@ -466,24 +509,29 @@ final class Model {
         return kind >= 1 && kind <= 3 && isInstance(account, seq) ? known(peers.get(node).heard[kind][account][seq]) : -1;
     }
 
-    long accepted(int node, int account, int seq) {
+    @Override
+    public long accepted(int node, int account, int seq) {
         Long p = isCorrect(node) && isInstance(account, seq) ? peers.get(node).accepted[account][seq] : null;
         return p == null ? -1 : p;
     }
 
-    int applied(int node, int account) {
+    @Override
+    public int applied(int node, int account) {
         return isCorrect(node) && isNode(account) ? peers.get(node).applied.get(account).size() : -1;
     }
 
-    long balance(int node, int account) {
+    @Override
+    public long balance(int node, int account) {
         return isCorrect(node) && isNode(account) ? peers.get(node).balance(account) : -1;
     }
 
-    int freed(int node, int account) {
+    @Override
+    public int freed(int node, int account) {
         return isCorrect(node) && isNode(account) ? peers.get(node).freed[account] : -1;
     }
 
-    int kept(int node) {
+    @Override
+    public int kept(int node) {
         if (!isCorrect(node)) {
             return -1;
         }
@@ -496,7 +544,8 @@ final class Model {
         return count;
     }
 
-    int state(int node) {
+    @Override
+    public int state(int node) {
         return !isNode(node) ? -1 : peers.get(node).faulty ? 2 : peers.get(node).up ? 0 : 1;
     }
 }

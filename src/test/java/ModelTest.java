@@ -9,11 +9,11 @@ import java.util.TreeMap;
  */
 public final class ModelTest {
     private static final int RUNS = 700;
-    private static final int CALLS = 512;
+    private static final int CALLS = Counted.MOST_CALLS;
 
     private final Random random;
     private final Model model;
-    private final EchoPayments object;
+    private final Counted object;
     private final Due due;
     private final Map<String, Integer> seen;
     /** How often a call of each sort is drawn in this run; the sorts are those of the switch in call(). */
@@ -27,7 +27,7 @@ public final class ModelTest {
         int nodes = run % 10 == 9 ? random.nextInt(20) - 5 : 4 + random.nextInt(4);
         int start = random.nextInt(4) == 0 ? random.nextInt(1400) - 200 : random.nextInt(120);
         model = new Model(nodes, start);
-        object = new EchoPayments(nodes, start);
+        object = new Counted(nodes, start);
         due.part("run " + run + ", new EchoPayments(" + nodes + ", " + start + ")");
         boolean faults = run % 3 != 0;
         boolean crashes = run % 3 != 1;

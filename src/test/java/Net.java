@@ -24,7 +24,7 @@ final class Net {
     }
 
     /** Delivers until nothing is pending; answers how many were received. */
-    static int settle(EchoPayments x) {
+    static int settle(Payments x) {
         int sum = 0;
         int got = x.pump(8);
         while (got > 0) {
@@ -34,19 +34,27 @@ final class Net {
         return sum;
     }
 
-    static void markAll(EchoPayments x, int nodes) {
+    static void markAll(Payments x, int nodes) {
         for (int i = 0; i < nodes; i++) {
             x.mark(i);
         }
     }
 
     /** The faulty node 3 of four spreads a transfer of its own, all as it should be, to those that are up. */
-    static void spreadFrom3(EchoPayments x, int seq, long paper) {
+    static void spreadFrom3(Payments x, int seq, long paper) {
         for (int kind = INIT; kind <= READY; kind++) {
             for (int to = 0; to < 3; to++) {
                 x.forge(3, to, head(kind, 3, seq), paper);
             }
             settle(x);
         }
+    }
+
+    /** A faulty node sends INIT to all, and the correct ones do the rest, as long as none of them is down. */
+    static void spreadInit(Payments x, int nodes, int from, int seq, long paper) {
+        for (int to = 0; to < nodes; to++) {
+            x.forge(from, to, head(INIT, from, seq), paper);
+        }
+        settle(x);
     }
 }

@@ -40,7 +40,7 @@ public final class PromisesTest {
 
     private void newObject() {
         due.part("promise 1");
-        EchoPayments x = new EchoPayments(4, 100);
+        Counted x = new Counted(4, 100);
         for (int i = 0; i < 4; i++) {
             due.is("state", 0, x.state(i));
             due.is("kept", 0, x.kept(i));
@@ -62,7 +62,7 @@ public final class PromisesTest {
         int[] nodes = {4, 4, 4, 4, 4, 5, 6, 7, 7, 7, 7};
         int[] faults = {1, 1, 1, 1, 1, 1, 1, 2, 2, 2, 2};
         for (int i = 0; i < given.length; i++) {
-            EchoPayments x = new EchoPayments(given[i], 10);
+            Counted x = new Counted(given[i], 10);
             due.is(given[i] + " nodes: the last one's state", 0, x.state(nodes[i] - 1));
             due.is(given[i] + " nodes: the state beyond", -1, x.state(nodes[i]));
             for (int c = 0; c < 4; c++) {
@@ -72,13 +72,13 @@ public final class PromisesTest {
         int[] starts = {Integer.MIN_VALUE, -1, 0, 1, 999, 1000, 1001, Integer.MAX_VALUE};
         int[] balances = {0, 0, 0, 1, 999, 1000, 1000, 1000};
         for (int i = 0; i < starts.length; i++) {
-            due.is("start " + starts[i], balances[i], new EchoPayments(7, starts[i]).balance(6, 0));
+            due.is("start " + starts[i], balances[i], new Counted(7, starts[i]).balance(6, 0));
         }
     }
 
     private void submitRefused() {
         due.part("promise 2");
-        EchoPayments x = new EchoPayments(4, 1000);
+        Counted x = new Counted(4, 1000);
         for (int wrong : NO_NODES_OF_FOUR) {
             due.is("submit by " + wrong, EchoPayments.REFUSED, x.submit(wrong, 1, 1));
             due.is("submit to " + wrong, EchoPayments.REFUSED, x.submit(0, wrong, 1));
@@ -99,7 +99,7 @@ public final class PromisesTest {
 
     private void submitInTheOrderOfItsAnswers() {
         due.part("promise 2");
-        EchoPayments x = new EchoPayments(4, 5);
+        Counted x = new Counted(4, 5);
         x.fuse(0, 1);
         due.is("poor before crashed", EchoPayments.POOR, x.submit(0, 1, 6));
         due.is("still up", 0, x.state(0));
@@ -119,7 +119,7 @@ public final class PromisesTest {
 
     private void submitByBalance() {
         due.part("promise 2");
-        EchoPayments x = new EchoPayments(4, 100);
+        Counted x = new Counted(4, 100);
         due.is("submit", 1, x.submit(0, 1, 60));
         due.is("submitted, not applied", EchoPayments.POOR, x.submit(0, 1, 41));
         due.is("an income that is not applied", EchoPayments.POOR, x.submit(1, 0, 101));
@@ -135,7 +135,7 @@ public final class PromisesTest {
         x.crash(0);
         x.restart(0);
         due.is("a crash leaves the submission", EchoPayments.POOR, x.submit(0, 2, 1));
-        EchoPayments rich = new EchoPayments(4, 1000);
+        Counted rich = new Counted(4, 1000);
         due.is("1023 is more than 1000", EchoPayments.POOR, rich.submit(0, 1, 1023));
         rich.submit(1, 0, 23);
         Net.settle(rich);
@@ -145,7 +145,7 @@ public final class PromisesTest {
 
     private void submitNeeds() {
         due.part("promise 2");
-        EchoPayments x = new EchoPayments(7, 100);
+        Counted x = new Counted(7, 100);
         int[] payees = {0, 2, 0, 2};
         for (int payee : payees) {
             x.submit(1, payee, 1);
@@ -171,7 +171,7 @@ public final class PromisesTest {
 
     private void submitAfterFreeing() {
         due.part("promise 2");
-        EchoPayments x = new EchoPayments(4, 100);
+        Counted x = new Counted(4, 100);
         for (int s = 1; s <= 5; s++) {
             x.submit(0, 1, 10);
         }
@@ -187,7 +187,7 @@ public final class PromisesTest {
 
     private void corrupt() {
         due.part("promise 3");
-        EchoPayments x = new EchoPayments(7, 100);
+        Counted x = new Counted(7, 100);
         for (int wrong : new int[] {-1, 7, Integer.MIN_VALUE, Integer.MAX_VALUE}) {
             due.is("corrupt " + wrong, false, x.corrupt(wrong));
         }
@@ -212,7 +212,7 @@ public final class PromisesTest {
 
     private void forgeRefused() {
         due.part("promise 4");
-        EchoPayments x = new EchoPayments(7, 100);
+        Counted x = new Counted(7, 100);
         int head = Net.head(Net.INIT, 5, 1);
         long paper = Net.paper(0, 1);
         due.is("from a correct node", EchoPayments.REFUSED, x.forge(5, 0, head, paper));
@@ -235,7 +235,7 @@ public final class PromisesTest {
 
     private void forgeAnswers() {
         due.part("promise 4");
-        EchoPayments x = new EchoPayments(4, 100);
+        Counted x = new Counted(4, 100);
         x.corrupt(3);
         x.crash(0);
         long first = Net.paper(1, 30);
@@ -263,7 +263,7 @@ public final class PromisesTest {
     }
 
     private void forgeAppliesTwo() {
-        EchoPayments x = new EchoPayments(4, 100);
+        Counted x = new Counted(4, 100);
         x.corrupt(3);
         x.crash(0);
         Net.spreadFrom3(x, 1, Net.paper(1, 30));
@@ -279,7 +279,7 @@ public final class PromisesTest {
 
     private void carryRefusedAndAbsent() {
         due.part("promise 5");
-        EchoPayments x = new EchoPayments(4, 100);
+        Counted x = new Counted(4, 100);
         x.submit(0, 1, 10);
         x.submit(3, 1, 10);
         x.crash(1);
@@ -309,7 +309,7 @@ public final class PromisesTest {
 
     private void carryAnswers() {
         due.part("promise 5");
-        EchoPayments x = new EchoPayments(4, 100);
+        Counted x = new Counted(4, 100);
         x.submit(0, 1, 10);
         x.crash(0);
         due.is("from one that is down", 0, x.carry(0, 2, Net.INIT, 0, 1));
@@ -327,7 +327,7 @@ public final class PromisesTest {
 
     private void pumpOrder() {
         due.part("promise 6");
-        EchoPayments x = new EchoPayments(4, 100);
+        Counted x = new Counted(4, 100);
         x.mark(0);
         x.submit(1, 0, 1);
         x.submit(0, 1, 2);
@@ -365,7 +365,7 @@ public final class PromisesTest {
     /** By a DONE about account 1, a DONE about account 0 comes to be pending, which goes before. */
     private void pumpLooksAnew() {
         due.part("promise 6");
-        EchoPayments x = new EchoPayments(4, 50);
+        Counted x = new Counted(4, 50);
         x.crash(3);
         x.submit(1, 0, 50);
         Net.settle(x);
@@ -389,7 +389,7 @@ public final class PromisesTest {
 
     private void pumpCounts() {
         due.part("promise 6");
-        EchoPayments x = new EchoPayments(4, 100);
+        Counted x = new Counted(4, 100);
         for (int wrong : new int[] {0, -1, 9, Integer.MIN_VALUE, Integer.MAX_VALUE}) {
             due.is("pump " + wrong, EchoPayments.REFUSED, x.pump(wrong));
         }
@@ -406,7 +406,7 @@ public final class PromisesTest {
 
     private void pending() {
         due.part("promise 7");
-        EchoPayments x = new EchoPayments(5, 100);
+        Counted x = new Counted(5, 100);
         x.submit(0, 1, 10);
         due.is("to every node, itself included", 5, x.pending());
         x.crash(4);
@@ -429,7 +429,7 @@ public final class PromisesTest {
         x.fuse(4, 1);
         due.is("what would crash its receiver would be taken", 13, x.pending());
         due.is("to look changes nothing", 13, x.pending());
-        EchoPayments z = new EchoPayments(4, 100);
+        Counted z = new Counted(4, 100);
         z.submit(0, 1, 10);
         z.carry(0, 1, Net.INIT, 0, 1);
         z.corrupt(0);
@@ -439,7 +439,7 @@ public final class PromisesTest {
 
     private void crash() {
         due.part("promise 8");
-        EchoPayments x = new EchoPayments(4, 100);
+        Counted x = new Counted(4, 100);
         x.submit(0, 1, 10);
         Net.settle(x);
         x.mark(2);
@@ -468,7 +468,7 @@ public final class PromisesTest {
 
     private void restart() {
         due.part("promise 9");
-        EchoPayments x = new EchoPayments(4, 100);
+        Counted x = new Counted(4, 100);
         due.is("one that is up", false, x.restart(0));
         x.crash(0);
         due.is("one that is down", true, x.restart(0));
@@ -489,7 +489,7 @@ public final class PromisesTest {
 
     private void fuse() {
         due.part("promise 10");
-        EchoPayments x = new EchoPayments(4, 100);
+        Counted x = new Counted(4, 100);
         for (int wrong : NO_NODES_OF_FOUR) {
             due.is("fuse of " + wrong, false, x.fuse(wrong, 1));
         }
@@ -517,7 +517,7 @@ public final class PromisesTest {
 
     private void mark() {
         due.part("promise 11");
-        EchoPayments x = new EchoPayments(7, 100);
+        Counted x = new Counted(7, 100);
         x.submit(6, 0, 1);
         x.submit(6, 0, 1);
         x.submit(1, 0, 1);
@@ -539,14 +539,14 @@ public final class PromisesTest {
         for (int wrong : new int[] {-1, 7, Integer.MIN_VALUE, Integer.MAX_VALUE}) {
             due.is("mark " + wrong, EchoPayments.REFUSED, x.mark(wrong));
         }
-        EchoPayments alone = new EchoPayments(4, 100);
+        Counted alone = new Counted(4, 100);
         due.is("of nothing", 0, alone.mark(0));
         due.is("of nothing", 0, alone.sent(0, Net.MARK, 0, 0));
     }
 
     private void sent() {
         due.part("promise 12");
-        EchoPayments x = new EchoPayments(4, 100);
+        Counted x = new Counted(4, 100);
         x.submit(0, 1, 10);
         long paper = Net.paper(1, 10);
         due.is("INIT", paper, x.sent(0, Net.INIT, 0, 1));
@@ -581,7 +581,7 @@ public final class PromisesTest {
 
     private void heard() {
         due.part("promise 13");
-        EchoPayments x = new EchoPayments(4, 100);
+        Counted x = new Counted(4, 100);
         x.corrupt(3);
         due.is("none", 0, x.heard(0, Net.ECHO, 3, 5));
         for (int kind = Net.ECHO; kind <= Net.DONE; kind++) {
@@ -614,7 +614,7 @@ public final class PromisesTest {
 
     private void accepted() {
         due.part("promise 14");
-        EchoPayments x = new EchoPayments(4, 100);
+        Counted x = new Counted(4, 100);
         x.corrupt(3);
         long paper = Net.paper(0, 101);
         Net.spreadFrom3(x, 1, paper);
@@ -641,7 +641,7 @@ public final class PromisesTest {
 
     private void applied() {
         due.part("promise 15");
-        EchoPayments x = new EchoPayments(4, 100);
+        Counted x = new Counted(4, 100);
         x.submit(0, 1, 10);
         x.submit(0, 1, 10);
         x.submit(2, 1, 10);
@@ -661,7 +661,7 @@ public final class PromisesTest {
 
     private void balance() {
         due.part("promise 16");
-        EchoPayments x = new EchoPayments(4, 100);
+        Counted x = new Counted(4, 100);
         x.submit(0, 1, 10);
         x.submit(2, 1, 20);
         due.is("not by a submission", 100, x.balance(0, 0));
@@ -686,7 +686,7 @@ public final class PromisesTest {
 
     private void freed() {
         due.part("promise 17");
-        EchoPayments x = new EchoPayments(4, 100);
+        Counted x = new Counted(4, 100);
         x.submit(0, 1, 10);
         x.submit(0, 1, 10);
         x.submit(3, 1, 10);
@@ -709,7 +709,7 @@ public final class PromisesTest {
 
     private void kept() {
         due.part("promise 18");
-        EchoPayments x = new EchoPayments(4, 100);
+        Counted x = new Counted(4, 100);
         x.corrupt(3);
         x.submit(0, 1, 1);
         due.is("a submission is not kept", 0, x.kept(0));
@@ -730,7 +730,7 @@ public final class PromisesTest {
 
     private void state() {
         due.part("promise 19");
-        EchoPayments x = new EchoPayments(4, 100);
+        Counted x = new Counted(4, 100);
         due.is("up", 0, x.state(2));
         x.crash(2);
         due.is("down", 1, x.state(2));
@@ -743,7 +743,7 @@ public final class PromisesTest {
 
     private void wrongNodesEverywhere() {
         due.part("promises 12 to 18");
-        EchoPayments x = new EchoPayments(4, 100);
+        Counted x = new Counted(4, 100);
         x.mark(0);
         for (int wrong : NO_NODES_OF_FOUR) {
             due.is("sent", -1, x.sent(wrong, Net.MARK, 0, 0));

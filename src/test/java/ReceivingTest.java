@@ -37,7 +37,7 @@ public final class ReceivingTest {
     /** The last node is faulty and sends INIT about its own account, each time about a new node or instance. */
     private void papers(int n) {
         due.part("papers of " + n + " nodes");
-        EchoPayments x = new EchoPayments(n, 100);
+        Counted x = new Counted(n, 100);
         int y = n - 1;
         x.corrupt(y);
         long good = Net.paper(0, 1);
@@ -70,7 +70,7 @@ public final class ReceivingTest {
 
     private void largestPaper() {
         due.part("papers");
-        EchoPayments x = new EchoPayments(7, 100);
+        Counted x = new Counted(7, 100);
         x.corrupt(0);
         long paper = Net.paper(6, 1023) + Net.need(6, 5);
         due.is("NEED(6) 5", 0, x.forge(0, 1, Net.head(Net.INIT, 0, 5), paper));
@@ -81,7 +81,7 @@ public final class ReceivingTest {
 
     private void marks(int n) {
         due.part("marks of " + n + " nodes");
-        EchoPayments x = new EchoPayments(n, 100);
+        Counted x = new Counted(n, 100);
         x.corrupt(0);
         int head = Net.head(Net.MARK, 0, 0);
         long power = 1;
@@ -105,7 +105,7 @@ public final class ReceivingTest {
 
     private void heads(int n) {
         due.part("heads of " + n + " nodes");
-        EchoPayments x = new EchoPayments(n, 100);
+        Counted x = new Counted(n, 100);
         x.corrupt(0);
         long paper = Net.paper(1, 1);
         for (int kind = 5; kind < 8; kind++) {
@@ -134,7 +134,7 @@ public final class ReceivingTest {
     private void echoQuorum(int n) {
         due.part("ECHO of " + n + " nodes");
         int[] wanted = {3, 4, 4, 5};
-        EchoPayments x = new EchoPayments(n, 100);
+        Counted x = new Counted(n, 100);
         x.submit(0, 1, 10);
         x.pump(n);
         for (int from = 0; from < n; from++) {
@@ -148,7 +148,7 @@ public final class ReceivingTest {
     private void readyQuorums(int n) {
         due.part("READY of " + n + " nodes");
         int f = (n - 1) / 3;
-        EchoPayments x = new EchoPayments(n, 100);
+        Counted x = new Counted(n, 100);
         x.submit(0, 1, 10);
         x.crash(1);
         Net.settle(x);
@@ -169,7 +169,7 @@ public final class ReceivingTest {
     private void doneQuorum(int n) {
         due.part("DONE of " + n + " nodes");
         int f = (n - 1) / 3;
-        EchoPayments x = new EchoPayments(n, 100);
+        Counted x = new Counted(n, 100);
         x.submit(1, 0, 10);
         x.crash(0);
         Net.settle(x);
@@ -186,7 +186,7 @@ public final class ReceivingTest {
     private void markQuorum(int n) {
         due.part("marks of " + n + " nodes");
         int f = (n - 1) / 3;
-        EchoPayments x = new EchoPayments(n, 100);
+        Counted x = new Counted(n, 100);
         x.submit(0, 1, 10);
         Net.settle(x);
         Net.markAll(x, n);
@@ -194,7 +194,7 @@ public final class ReceivingTest {
             due.is("mark from " + from, 0, x.carry(from, 1, Net.MARK, 0, 0));
             due.is("freed after " + (from + 1), from < 2 * f ? 0 : 1, x.freed(1, 0));
         }
-        EchoPayments z = new EchoPayments(n, 100);
+        Counted z = new Counted(n, 100);
         z.mark(0);
         z.submit(0, 1, 10);
         Net.settle(z);
@@ -207,7 +207,7 @@ public final class ReceivingTest {
 
     private void orderOfObjections() {
         due.part("order of the objections");
-        EchoPayments x = new EchoPayments(7, 100);
+        Counted x = new Counted(7, 100);
         x.submit(0, 1, 10);
         Net.settle(x);
         Net.markAll(x, 7);
@@ -232,7 +232,7 @@ public final class ReceivingTest {
 
     private void repeatedWithWhateverPaper() {
         due.part("repeated");
-        EchoPayments x = new EchoPayments(4, 100);
+        Counted x = new Counted(4, 100);
         x.corrupt(3);
         for (int kind = Net.ECHO; kind <= Net.DONE; kind++) {
             int head = Net.head(kind, 0, 1);
@@ -254,7 +254,7 @@ public final class ReceivingTest {
     /** Votes for different papers are not added up. */
     private void equivocation() {
         due.part("two papers for one instance");
-        EchoPayments x = new EchoPayments(4, 100);
+        Counted x = new Counted(4, 100);
         x.corrupt(3);
         long one = Net.paper(0, 40);
         long two = Net.paper(1, 50);
@@ -280,7 +280,7 @@ public final class ReceivingTest {
 
     private void doneMakesNoReady() {
         due.part("DONE");
-        EchoPayments x = new EchoPayments(4, 10);
+        Counted x = new Counted(4, 10);
         x.submit(0, 1, 10);
         x.crash(3);
         Net.settle(x);
@@ -300,7 +300,7 @@ public final class ReceivingTest {
 
     private void waitsForNeed() {
         due.part("NEED");
-        EchoPayments x = new EchoPayments(4, 100);
+        Counted x = new Counted(4, 100);
         x.corrupt(3);
         long paper = Net.paper(0, 10) + Net.need(1, 2);
         Net.spreadFrom3(x, 1, paper);
@@ -319,7 +319,7 @@ public final class ReceivingTest {
         due.part("the least account");
         int[] appliedOf1 = {0, 1, 2, 2};
         for (int fuse = 1; fuse <= 5; fuse++) {
-            EchoPayments x = new EchoPayments(4, 100);
+            Counted x = new Counted(4, 100);
             x.crash(0);
             x.submit(1, 2, 10);
             x.submit(1, 3, 10);
@@ -344,7 +344,7 @@ public final class ReceivingTest {
 
     private void fiveAreAll() {
         due.part("five transfers");
-        EchoPayments x = new EchoPayments(4, 100);
+        Counted x = new Counted(4, 100);
         for (int s = 1; s <= 5; s++) {
             x.submit(3, 0, s);
         }
@@ -361,7 +361,7 @@ public final class ReceivingTest {
 
     private void freeing() {
         due.part("freeing");
-        EchoPayments x = new EchoPayments(4, 100);
+        Counted x = new Counted(4, 100);
         x.submit(0, 1, 10);
         x.submit(0, 1, 20);
         Net.settle(x);
@@ -388,7 +388,7 @@ public final class ReceivingTest {
 
     private void noFreeingWithoutOwnMark() {
         due.part("freeing");
-        EchoPayments x = new EchoPayments(4, 100);
+        Counted x = new Counted(4, 100);
         x.submit(0, 1, 10);
         Net.settle(x);
         x.mark(0);
@@ -401,7 +401,7 @@ public final class ReceivingTest {
         due.is("not by the mark alone", 0, x.freed(3, 0));
         x.carry(3, 3, Net.MARK, 0, 0);
         due.is("by the next mark heard", 1, x.freed(3, 0));
-        EchoPayments z = new EchoPayments(4, 100);
+        Counted z = new Counted(4, 100);
         z.mark(0);
         z.submit(0, 1, 10);
         Net.settle(z);
@@ -415,7 +415,7 @@ public final class ReceivingTest {
 
     private void freeingAfterCrash() {
         due.part("freeing");
-        EchoPayments x = new EchoPayments(4, 100);
+        Counted x = new Counted(4, 100);
         x.submit(0, 1, 10);
         Net.settle(x);
         Net.markAll(x, 4);
@@ -436,7 +436,7 @@ public final class ReceivingTest {
     /** A mark of an earlier day does not take back what a later one has freed. */
     private void freeingNeverTakesBack() {
         due.part("freeing");
-        EchoPayments x = new EchoPayments(4, 100);
+        Counted x = new Counted(4, 100);
         x.submit(0, 1, 10);
         Net.settle(x);
         Net.markAll(x, 4);
@@ -456,7 +456,7 @@ public final class ReceivingTest {
 
     private void fuseAtEcho() {
         due.part("fuse");
-        EchoPayments x = new EchoPayments(4, 100);
+        Counted x = new Counted(4, 100);
         x.submit(0, 1, 10);
         x.fuse(2, 1);
         due.is("crashed", EchoPayments.CRASHED, x.carry(0, 2, Net.INIT, 0, 1));
@@ -475,7 +475,7 @@ public final class ReceivingTest {
 
     private void fuseAtReady() {
         due.part("fuse");
-        EchoPayments x = new EchoPayments(4, 100);
+        Counted x = new Counted(4, 100);
         x.submit(0, 1, 10);
         x.pump(4);
         x.fuse(3, 1);
@@ -493,7 +493,7 @@ public final class ReceivingTest {
     /** By the third READY one that has none of its own would write READY at the second and apply at the third. */
     private void fuseAtApplied() {
         due.part("fuse");
-        EchoPayments x = new EchoPayments(4, 100);
+        Counted x = new Counted(4, 100);
         x.submit(0, 1, 10);
         x.crash(3);
         Net.settle(x);
@@ -512,7 +512,7 @@ public final class ReceivingTest {
 
     private void fuseIsSpentByWritingsAlone() {
         due.part("fuse");
-        EchoPayments x = new EchoPayments(4, 100);
+        Counted x = new Counted(4, 100);
         x.corrupt(3);
         x.submit(1, 2, 5);
         x.fuse(0, 2);
