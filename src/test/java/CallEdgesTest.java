@@ -39,6 +39,8 @@ public final class CallEdgesTest {
         test.pumpUpToEight();
         test.pumpInOrder();
         test.pumpOfTheLastOfAll();
+        test.pumpLooksEachTimeAnew();
+        test.pumpGoesOnAfterACrash();
         test.crashTakesTheFuse();
         test.fuseUpToNine();
         test.markCountsWhatIsApplied();
@@ -372,6 +374,7 @@ public final class CallEdgesTest {
         x.corrupt(0);
         due.is("to itself", REFUSED, x.forge(0, 0, head, 0));
         x.crash(1);
+        due.is("from one that is down", REFUSED, x.forge(1, 2, head, 0));
         due.is("to one that is down", REFUSED, x.forge(0, 1, head, 0));
         due.is("what is malformed, too", REFUSED, x.forge(0, 1, 7, -1));
         due.is("not heard", 0, x.heard(1, Net.MARK, 0, 0));
@@ -548,6 +551,54 @@ public final class CallEdgesTest {
         due.is("ECHO of all and its own READY", 35 + 5, Net.settle(x));
         due.is("heard", 7, x.heard(6, Net.ECHO, 6, 5));
         due.is("READY", Net.paper(0, 1), x.sent(6, Net.READY, 6, 5));
+    }
+
+    /** Promise 6: "each time the first one that is pending then" */
+    private void pumpLooksEachTimeAnew() {
+        due.part("promise 6, anew");
+        Counted x = new Counted(4, 100);
+        x.submit(0, 1, 1);
+        due.is("four INIT, and four ECHO that come of them", 8, x.pump(8));
+        for (int to = 0; to < 4; to++) {
+            due.is("ECHO at " + to, 1, x.heard(to, Net.ECHO, 0, 1));
+        }
+        Counted z = new Counted(4, 50);
+        z.crash(3);
+        z.submit(1, 0, 50);
+        Net.settle(z);
+        z.submit(0, 2, 100);
+        Net.settle(z);
+        Net.markAll(z, 3);
+        Net.settle(z);
+        z.restart(3);
+        due.is("three DONE of 0, two of 1, and one that comes of them", 6, z.pump(6));
+        due.is("all about 0, its own too", 4, z.heard(3, Net.DONE, 0, 1));
+        due.is("two about 1", 2, z.heard(3, Net.DONE, 1, 1));
+    }
+
+    /** Promise 6: "Answers how many were received", also when the receiver crashed by that. */
+    private void pumpGoesOnAfterACrash() {
+        due.part("promise 6, crash");
+        Counted x = new Counted(4, 100);
+        x.submit(0, 1, 1);
+        x.fuse(0, 1);
+        x.fuse(2, 1);
+        due.is("four INIT, of which two crash", 4, x.pump(4));
+        for (int i = 0; i < 4; i++) {
+            due.is("state", i % 2 == 0 ? 1 : 0, x.state(i));
+            due.is("ECHO", i % 2 == 0 ? -1 : Net.paper(1, 1), x.sent(i, Net.ECHO, 0, 1));
+        }
+        due.is("two ECHO to two nodes", 4, x.pump(8));
+        Counted z = new Counted(4, 100);
+        z.submit(0, 1, 1);
+        for (int i = 0; i < 4; i++) {
+            z.fuse(i, 1);
+        }
+        due.is("all crash", 4, z.pump(8));
+        due.is("none is left", 0, z.pump(8));
+        z.restart(3);
+        due.is("it is sent still", 1, z.pump(1));
+        due.is("without a fuse", Net.paper(1, 1), z.sent(3, Net.ECHO, 0, 1));
     }
 
     /** Promises 8 and 9: "Otherwise false, and nothing changes." */

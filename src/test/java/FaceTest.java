@@ -82,7 +82,7 @@ public final class FaceTest {
 
     private static void lookAtNames(Due due, Class<?> owner, Set<String> publicNames) {
         for (Method method : owner.getDeclaredMethods()) {
-            if (!isPublic(method.getModifiers())) {
+            if (isHidden(method)) {
                 due.isTrue(method + " bears no public name", !publicNames.contains(method.getName()));
             }
         }

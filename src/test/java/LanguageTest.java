@@ -8,8 +8,8 @@ import java.util.regex.Pattern;
 /** The rules of LANGUAGE.md that can be seen in the words of the source; .ci/run starts it in the project's directory. */
 public final class LanguageTest {
     private static final String[] WORDS = {
-        "throw", "throws", "try", "catch", "finally", "synchronized", "assert", "package", "Object", "Random", "Thread",
-        "equals", "hashCode", "toString", "println", "nanoTime", "currentTimeMillis", "volatile", "native", "var"
+        "throw", "throws", "try", "catch", "finally", "synchronized", "assert", "package", "Random", "Thread", "hashCode",
+        "println", "nanoTime", "currentTimeMillis", "volatile", "native"
     };
 
     public static void main(String[] args) throws Exception {
@@ -20,12 +20,16 @@ public final class LanguageTest {
         for (String word : WORDS) {
             due.isTrue("there is no " + word, !Pattern.compile("\\b" + word + "\\b").matcher(code).find());
         }
-        due.isTrue("there is no lambda", !code.contains("->"));
+        due.isTrue("there is no lambda", !code.replaceAll("(case\\s[^>\n]*|default\\s*)->", "").contains("->"));
         due.isTrue("there is no method reference", !code.contains("::"));
         due.isTrue("there is no static initialiser", !Pattern.compile("static\\s*\\{").matcher(code).find());
-        due.isText("imports", Set.of("java.util.Arrays"), found(code, "import ([\\w.]+);"));
-        due.isText("library calls", Set.of("Arrays.fill", "Integer.bitCount", "Math.max", "Math.min"),
-                found(code, "\\b((?:Arrays|Integer|Long|Math|System|String)\\.\\w+)\\("));
+        for (String name : found(code, "import ([\\w.*]+);")) {
+            due.isTrue(name + " may be imported", name.matches("java\\.util\\.(Arrays|ArrayList|List|Iterator)"));
+        }
+        for (String call : found(code, "\\b((?:Arrays|List|Integer|Long|Math|System|String)\\.\\w+)\\(")) {
+            due.isTrue(call + " may be called", call.matches("Arrays\\.(copyOf|copyOfRange|fill)|System\\.arraycopy"
+                    + "|List\\.of|(Integer|Long|Math)\\.\\w+") && !call.endsWith("Exact"));
+        }
         due.is("files of the program", 1, Files.list(Path.of("src/main/java")).count());
         shortMethods(due, code);
         due.end();

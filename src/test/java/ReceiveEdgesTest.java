@@ -18,6 +18,7 @@ public final class ReceiveEdgesTest {
         test.initIsSentByItsOwnerUntilFreed();
         test.doneIsSentFreedOrNot();
         test.sentToEveryNodeUpOrDown();
+        test.theFirstObjectionIsTheAnswer();
         test.onlyInitKnowsStrangers();
         test.oldUpToTheFreedOnes();
         test.initIsRepeatedByAnEchoPaperAlone();
@@ -35,6 +36,7 @@ public final class ReceiveEdgesTest {
         test.laterOnesAreAcceptedAndWait();
         test.fiveAtOnce();
         test.fifteenAtOnce();
+        test.theLeastEachTime();
         test.balanceThatJustSuffices();
         test.needThatIsJustMet();
         test.everyNeedMustBeMet();
@@ -185,6 +187,36 @@ public final class ReceiveEdgesTest {
             due.is("mark to itself", 0, x.carry(0, 0, Net.MARK, 0, 0));
             due.is("ECHO of two nodes to all, INIT and mark to the others", 2 * n + 2 * (n - 2), x.pending());
         }
+    }
+
+    /** "the first of these that holds is the answer": wherever two hold at once. */
+    private void theFirstObjectionIsTheAnswer() {
+        due.part("order of the objections");
+        Counted x = new Counted(7, 100);
+        x.submit(6, 0, 1);
+        Net.settle(x);
+        Net.markAll(x, 7);
+        Net.settle(x);
+        x.corrupt(5);
+        x.corrupt(6);
+        long good = Net.paper(0, 1);
+        long bad = Net.paper(6, 1);
+        for (int kind = Net.INIT; kind <= Net.DONE; kind++) {
+            int freed = Net.head(kind, 6, 1);
+            int next = Net.head(kind, 6, 2);
+            due.is("malformed, old; kind " + kind, MALFORMED, x.forge(6, 0, freed, bad));
+            due.is("old; kind " + kind, OLD, x.forge(6, 0, freed, good));
+            due.is("malformed; kind " + kind, MALFORMED, x.forge(6, 0, next, bad));
+            due.is("none; kind " + kind, 0, x.forge(6, 0, next, good));
+            due.is("malformed, repeated; kind " + kind, MALFORMED, x.forge(6, 0, next, bad));
+            due.is("repeated; kind " + kind, REPEATED, x.forge(6, 0, next, good));
+        }
+        due.is("malformed, stranger, old", MALFORMED, x.forge(5, 0, Net.head(Net.INIT, 6, 1), bad));
+        due.is("stranger, old", STRANGER, x.forge(5, 0, Net.head(Net.INIT, 6, 1), good));
+        due.is("malformed, stranger, repeated", MALFORMED, x.forge(5, 0, Net.head(Net.INIT, 6, 2), bad));
+        due.is("stranger, repeated", STRANGER, x.forge(5, 0, Net.head(Net.INIT, 6, 2), good));
+        due.is("malformed, stranger", MALFORMED, x.forge(5, 0, Net.head(Net.INIT, 6, 3), bad));
+        due.is("stranger", STRANGER, x.forge(5, 0, Net.head(Net.INIT, 6, 3), good));
     }
 
     /** "STRANGER: the kind is INIT and y is not a." */
@@ -540,6 +572,35 @@ public final class ReceiveEdgesTest {
         for (int a = 1; a <= 3; a++) {
             due.is("applied of " + a, 5, x.applied(0, a));
             due.is("balance of " + a, 100, x.balance(0, a));
+        }
+    }
+
+    /**
+     * "for the least such c", looked for anew after each paper: by (3, 1) both (1, 1) and (3, 2) can be applied, and the
+     * fuse shows that (1, 1) goes first.
+     */
+    private void theLeastEachTime() {
+        due.part("the least each time");
+        int[] appliedOf1 = {0, 0, 0, 1, 1};
+        int[] appliedOf3 = {0, 0, 1, 1, 2};
+        for (int fuse = 1; fuse <= 4; fuse++) {
+            Counted x = new Counted(4, 100);
+            x.crash(0);
+            x.submit(3, 1, 60);
+            Net.settle(x);
+            x.submit(1, 2, 160);
+            x.submit(3, 2, 10);
+            Net.settle(x);
+            x.restart(0);
+            for (int[] about : new int[][] {{3, 2}, {1, 1}}) {
+                x.carry(1, 0, Net.DONE, about[0], about[1]);
+                due.is("it waits", 0, x.carry(2, 0, Net.DONE, about[0], about[1]));
+            }
+            x.carry(1, 0, Net.DONE, 3, 1);
+            x.fuse(0, fuse);
+            due.is("fuse " + fuse, fuse <= 3 ? EchoPayments.CRASHED : 3, x.carry(2, 0, Net.DONE, 3, 1));
+            due.is("of 1 with fuse " + fuse, appliedOf1[fuse], x.applied(0, 1));
+            due.is("of 3 with fuse " + fuse, appliedOf3[fuse], x.applied(0, 3));
         }
     }
 

@@ -126,6 +126,10 @@ public final class WritingEdgesTest {
             due.is("marks are heard", from + 1, x.heard(3, Net.MARK, 0, 0));
         }
         due.is("the mark stays", 2 * 512, x.sent(3, Net.MARK, 0, 0));
+        due.is("applied are three", 3, x.applied(3, 3));
+        due.is("freed are two, as the mark says", 2, x.freed(3, 3));
+        due.is("the second is old", EchoPayments.OLD, x.carry(0, 3, Net.READY, 3, 2));
+        due.is("the third is not", EchoPayments.REPEATED, x.carry(0, 3, Net.READY, 3, 3));
         due.is("elsewhere it is not freed", 3, x.kept(0));
     }
 
