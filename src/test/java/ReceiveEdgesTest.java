@@ -23,6 +23,7 @@ public final class ReceiveEdgesTest {
         test.oldUpToTheFreedOnes();
         test.initIsRepeatedByAnEchoPaperAlone();
         test.heardOncePerKindInstanceAndSender();
+        test.repeatedLeavesTheFirstPaper();
         test.markIsRepeatedByTheLastAlone();
         for (int n = 4; n <= 7; n++) {
             test.echoesForOnePaper(n);
@@ -312,6 +313,30 @@ public final class ReceiveEdgesTest {
             due.is("the account after", 0, x.forge(6, 0, Net.head(kind, 3, 3), paper));
             due.is("another kind", 0, x.forge(6, 0, Net.head(kind % 3 + 1, 2, 3), paper));
             due.is("still repeated", REPEATED, x.forge(6, 0, Net.head(kind, 2, 3), paper));
+        }
+    }
+
+    /** Of two papers from one node the first counts, and the second is not heard: one vote more tips the scale or not. */
+    private void repeatedLeavesTheFirstPaper() {
+        due.part("the first paper counts");
+        long paper = Net.paper(0, 10);
+        long other = Net.paper(0, 11);
+        for (int kind = Net.ECHO; kind <= Net.DONE; kind++) {
+            for (int i = 0; i < 2; i++) {
+                boolean rightFirst = i == 0;
+                Counted x = behind(4);
+                x.corrupt(3);
+                int head = Net.head(kind, 1, 1);
+                due.is("first", 0, x.forge(3, 0, head, rightFirst ? paper : other));
+                due.is("second", REPEATED, x.forge(3, 0, head, rightFirst ? other : paper));
+                int more = kind == Net.ECHO ? 2 : 1;
+                for (int from = 1; from < more; from++) {
+                    x.carry(from, 0, kind, 1, 1);
+                }
+                boolean applies = rightFirst && kind == Net.DONE;
+                due.is("the last, kind " + kind, applies ? 1 : 0, x.carry(more, 0, kind, 1, 1));
+                due.is("READY, kind " + kind, rightFirst && kind != Net.DONE ? paper : -1, x.sent(0, Net.READY, 1, 1));
+            }
         }
     }
 
