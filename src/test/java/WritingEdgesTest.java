@@ -10,7 +10,9 @@ public final class WritingEdgesTest {
         test.anotherMarkFreesToo();
         test.asManyAsTheMarkSays();
         test.fromMarkToMark();
-        test.ofAFreedInstanceNothingIsKept();
+        for (int n = 4; n <= 7; n++) {
+            test.ofAFreedInstanceNothingIsKept(n);
+        }
         test.everyWritingBurnsOne();
         test.nothingElseIsAWriting();
         test.nineWritingsOfAllSorts();
@@ -98,31 +100,32 @@ public final class WritingEdgesTest {
         }
     }
 
-    /** "Of a freed instance x keeps no ECHO, READY or submitted paper and nothing heard." */
-    private void ofAFreedInstanceNothingIsKept() {
-        due.part("a freed instance");
-        Counted x = new Counted(4, 100);
+    /** "Of a freed instance x keeps no ECHO, READY or submitted paper and nothing heard.", but all of the next one. */
+    private void ofAFreedInstanceNothingIsKept(int n) {
+        due.part("a freed instance, " + n + " nodes");
+        int last = (n - 1) / 3 * 2;
+        Counted x = new Counted(n, 100);
         x.submit(3, 1, 10);
         x.submit(3, 1, 20);
         Net.settle(x);
-        Net.markAll(x, 4);
+        Net.markAll(x, n);
         x.submit(3, 1, 30);
-        for (int i = 0; i < 13; i++) {
-            x.pump(4);
+        for (int i = 0; i < 1 + 3 * n; i++) {
+            x.pump(n);
         }
-        for (int from = 0; from < 3; from++) {
+        for (int from = 0; from <= last; from++) {
             due.is("mark " + from, 0, x.carry(from, 3, Net.MARK, 0, 0));
             for (int s = 1; s <= 3; s++) {
-                boolean isFreed = from == 2 && s <= 2;
+                boolean isFreed = from == last && s <= 2;
                 for (int kind = Net.INIT; kind <= Net.READY; kind++) {
                     due.is("sent " + kind + " of " + s, isFreed ? -1 : Net.paper(1, 10 * s), x.sent(3, kind, 3, s));
                 }
                 for (int kind = Net.ECHO; kind <= Net.DONE; kind++) {
-                    due.is("heard " + kind + " of " + s, isFreed ? 0 : 4, x.heard(3, kind, 3, s));
+                    due.is("heard " + kind + " of " + s, isFreed ? 0 : n, x.heard(3, kind, 3, s));
                 }
                 due.is("DONE of " + s, Net.paper(1, 10 * s), x.sent(3, Net.DONE, 3, s));
             }
-            due.is("kept", from == 2 ? 1 : 3, x.kept(3));
+            due.is("kept", from == last ? 1 : 3, x.kept(3));
             due.is("marks are heard", from + 1, x.heard(3, Net.MARK, 0, 0));
         }
         due.is("the mark stays", 2 * 512, x.sent(3, Net.MARK, 0, 0));
